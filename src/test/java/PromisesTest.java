@@ -62,6 +62,8 @@ public final class PromisesTest {
         due("knee(0, 0)", x.knee(0, 0), BAD);
         due("person(0, 0)", x.person(0, 0), BAD);
         due("trace()", x.trace(), 0);
+        due("downhill(0)", x.downhill(0), 0);
+        due("downhill(1)", x.downhill(1), 0);
         due("undo()", x.undo(), STATE);
         due("back(0)", x.back(0), STATE);
         due("lends(0, 0)", x.lends(0, 0), BAD);
@@ -294,6 +296,13 @@ public final class PromisesTest {
         // A farm that owns no knee needs no table, whomever it does not speak with.
         seats("k0 0 1;k0 2 1;x0 1;x1 2;", 1, 0, NONE, 0, NONE, NONE);
         seats("x0 1;", 0, NONE, NONE, NONE, NONE, NONE);
+        KneesLent x = Due.read(all + "x0 1;x1 2;x2 0;");
+        for (int i = 0; i < 3; i++) {
+            due("items", readIn(x, "k0 3 1;k0 1 1;"), 2);
+            due("tables, read anew", x.now(6), 1);
+            due("table of 0, read anew", x.farm(0, 3), NONE);
+            due("table of 1, read anew", x.farm(1, 3), 0);
+        }
     }
 
     private static void now() {
@@ -320,6 +329,7 @@ public final class PromisesTest {
         due("rest has no steps left", x.now(5), 2);
         KneesLent twins = Due.read("k1 0 9;k0 0 5;k1 1 5;");
         due("rest, the lowest of several", twins.now(5), 1);
+        due("rest, the first knee", Due.read("k1 0 5;k0 0 5;").now(5), 0);
         twins.pledges(0, 1);
         twins.pledges(1, 1);
         twins.pledges(2, 1);
@@ -597,6 +607,7 @@ public final class PromisesTest {
         kneesFor(Due.read("k0 0 5;k0 0 9;k0 0 9;p1 0 0;p1 9 0;"), 3, 0, NONE, 1, NONE);
         kneesFor(Due.read("k0 0 9;k0 1 9;k0 2 9;p1 0 0;p1 9 0;o0 3;o1 2;"), 3, 1, NONE, 2, NONE);
         kneesFor(Due.read("k0 0 9;k0 1 5;p1 0 0;p1 9 0;"), 3, 1, NONE, 0, NONE);
+        kneesFor(Due.read("k0 0 9;k0 0 9;k0 0 9;k0 0 9;k1 0 9;p1 0 0;p1 0 0;p3 0 0;p1 0 0;"), 15, 0, NONE, 1, NONE, 2, 4, 3, NONE);
         int[][] bad = {{8, 0, 0}, {-1, 0, 0}, {1, 1, 0}, {1, 0, 2}, {1, 0, -1}, {7, 3, 0}, {7, -1, 0}, {0, 0, 0}, {7, 32, 0}};
         for (int[] b : bad) {
             due("kneeFor(" + b[0] + ", " + b[1] + ", " + b[2] + ")", x.kneeFor(b[0], b[1], b[2]), BAD);
@@ -692,7 +703,8 @@ public final class PromisesTest {
         for (int[] b : bad) {
             due("tells BAD", x.tells(b[0], b[1], b[2]), BAD);
         }
-        for (int i = 1; i <= 6; i++) {
+        due("tells(2, 0, 0)", x.tells(2, 0, 0), 1);
+        for (int i = 2; i <= 6; i++) {
             due("tells", x.tells(1, 40, 80), i);
         }
         due("a seventh", x.tells(0, 0, 1), FULL);
@@ -775,6 +787,14 @@ public final class PromisesTest {
         x.brings(4);
         rains(x, 8, 0, 0);
         rains(new KneesLent(), 1, 0, 0);
+        x.forget();
+        x.felt(0, 0);
+        rains(x, 8, 0, 0);
+        x.lends(0, 1);
+        rains(x, 4, 0, 0);
+        x.forget();
+        x.felt(0, 1);
+        rains(x, 4, 2, 1);
         due("rain(3)", x.rain(3), BAD);
         for (int wrong : WRONG) {
             due("rain(wrong)", x.rain(wrong), BAD);
@@ -789,6 +809,12 @@ public final class PromisesTest {
         x.tells(1, 1, 5);
         x.felt(0, 1);
         due("forget()", x.forget(), 3);
+        x.lends(0, 0);
+        x.lends(2, 1);
+        x.felt(0, 0);
+        x.felt(1, 1);
+        due("rain(0)", x.rain(0), 2);
+        due("forget()", x.forget(), 2);
         due("count(2)", x.count(2), 0);
         due("count(3)", x.count(3), 0);
         due("downhill(0)", x.downhill(0), 0);
