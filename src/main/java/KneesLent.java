@@ -652,47 +652,39 @@ public final class KneesLent {
             return true;
         }
 
+        /** Reads an item whose letter was taken; what stands ahead of a fault is lost with the parish it went into. */
         private boolean readsItem() {
             switch (token) {
-                case 'k': return readsKnee();
-                case 'p': return readsPerson();
-                case 'x': return readsFeud();
-                case 'o': return readsOil();
-                default: return false;
+                case 'k':
+                    if (into.knees >= MOST_KNEES || !readsNumbers(KNEE_LEAST, KNEE_MOST)) {
+                        return false;
+                    }
+                    into.addKnee(numbers[0], numbers[1], numbers[2]);
+                    break;
+                case 'p':
+                    if (into.people >= MOST_PEOPLE || !readsNumbers(PERSON_LEAST, PERSON_MOST)) {
+                        return false;
+                    }
+                    into.addPerson(numbers[0], numbers[1], numbers[2]);
+                    break;
+                case 'x':
+                    // Looked at ahead of the item's end: the fault is the second farm's place.
+                    if (!readsNumbers(FEUD_LEAST, FEUD_MOST) || numbers[0] == numbers[1]) {
+                        return false;
+                    }
+                    into.addFeud(numbers[0], numbers[1]);
+                    break;
+                case 'o':
+                    if (!readsNumbers(OIL_LEAST, OIL_MOST)) {
+                        return false;
+                    }
+                    into.oil[numbers[0]] = numbers[1];
+                    break;
+                default:
+                    return false;
             }
-        }
-
-        private boolean readsKnee() {
-            if (into.knees >= MOST_KNEES || !readsNumbers(KNEE_LEAST, KNEE_MOST) || !readsEndOfItem()) {
-                return false;
-            }
-            into.addKnee(numbers[0], numbers[1], numbers[2]);
-            return true;
-        }
-
-        private boolean readsPerson() {
-            if (into.people >= MOST_PEOPLE || !readsNumbers(PERSON_LEAST, PERSON_MOST) || !readsEndOfItem()) {
-                return false;
-            }
-            into.addPerson(numbers[0], numbers[1], numbers[2]);
-            return true;
-        }
-
-        private boolean readsFeud() {
-            // Looked at ahead of the item's end: the fault is the second farm's place.
-            if (!readsNumbers(FEUD_LEAST, FEUD_MOST) || numbers[0] == numbers[1] || !readsEndOfItem()) {
-                return false;
-            }
-            into.addFeud(numbers[0], numbers[1]);
-            return true;
-        }
-
-        private boolean readsOil() {
-            if (!readsNumbers(OIL_LEAST, OIL_MOST) || !readsEndOfItem()) {
-                return false;
-            }
-            into.oil[numbers[0]] = numbers[1];
-            return true;
+            takeToken();
+            return token == ';';
         }
 
         private boolean readsNumbers(int[] least, int[] most) {
@@ -704,11 +696,6 @@ public final class KneesLent {
                 numbers[i] = value;
             }
             return true;
-        }
-
-        private boolean readsEndOfItem() {
-            takeToken();
-            return token == ';';
         }
 
         private void takeToken() {

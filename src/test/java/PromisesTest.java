@@ -136,6 +136,11 @@ public final class PromisesTest {
         fault("k0 0 1;\t", 7);
         fault("k0 0 1;\u00e9", 7);
         fault("k0 0 1;\0", 7);
+        fault("k0 0 1;\u00ff", 7);
+        fault("\u00ffk0 0 1;", 0);
+        fault(" ".repeat(180).substring(7) + "k0 0 1?", 179);
+        fault(" ".repeat(180).substring(6) + "k0 0 1", 180);
+        fault("k0 0 1" + " ".repeat(174), 180);
         fault("k0 5 1;?", 3);
         fault("k0 ? 99;", 3);
         fault("p0 0 0;", 1);
@@ -176,6 +181,7 @@ public final class PromisesTest {
         due("count(0)", x.count(0), 0);
         due("count(1)", x.count(1), 0);
         due("blanks", readIn(x, "     "), 0);
+        due("180 letters", readIn(x, "k0 0 1;" + " ".repeat(173)), 1);
         due("tokens close by", readIn(x, "o0 0;x4 0;k0 0 1;"), 3);
     }
 
@@ -905,6 +911,39 @@ public final class PromisesTest {
         due("day", x.now(0), 1);
     }
 
+    private static void nineKnees() {
+        Due.about("nine knees, six people");
+        KneesLent x = Due.read("k0 0 3;k1 0 3;k0 1 3;k1 1 3;k0 2 3;k1 2 3;k0 3 3;k1 3 3;k1 4 3;" + "p3 1 1;".repeat(4) + "p2 3 0;p1 3 0;");
+        mostOf(x, 55, 5, 8);
+        kneesFor(x, 31, 0, 1, 2, 3, 4, 5, 6, 7, NONE, 8);
+        for (int k = 0; k < 9; k++) {
+            due("lends", x.lends(k, k / 2), k + 1);
+        }
+        due("at home", x.now(1), 0);
+        due("rest", x.now(5), NONE);
+        mostOf(x, 0, 0, 0);
+        due("all lent", x.bell(), 9);
+        for (int p = 0; p < 5; p++) {
+            due("walks", x.walks(p, 0, 2), p < 4 ? 2 : 1);
+        }
+        due("gave", x.now(4), 9);
+        x.felt(4, 1);
+        rains(x, 32, 16, 1);
+        for (int f = 0; f < 4; f++) {
+            x.felt(f, 0);
+        }
+        rains(x, 2, 16, 1);
+        due("brings(8)", x.brings(8), 4);
+        rains(x, 0, NONE, NONE);
+        for (int k = 0; k < 8; k++) {
+            due("brings", x.brings(k), k / 2);
+            due("nothing left", x.lends(k, k / 2), STATE);
+        }
+        for (int k = 0; k < 9; k++) {
+            due("pledges", x.pledges(k, 1), k + 1);
+        }
+    }
+
     private static void count() {
         Due.about("promise 29");
         KneesLent x = small();
@@ -971,6 +1010,7 @@ public final class PromisesTest {
         rate();
         keep();
         back();
+        nineKnees();
         count();
         trace();
         Due.end();
