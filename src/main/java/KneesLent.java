@@ -305,7 +305,7 @@ public final class KneesLent {
         int inAll = parish.everybody();
         int fewest = MOST_PEOPLE;
         for (int set = 0; set <= parish.everybody(); set++) {
-            if (hearsay.canBeRain(farmsOnWhomItRains(set))) {
+            if (hearsay.canBeRain(farmsThatFeelRainOn(set))) {
                 sets++;
                 inAll &= set;
                 fewest = Math.min(fewest, Integer.bitCount(set));
@@ -440,7 +440,7 @@ public final class KneesLent {
         return rest;
     }
 
-    private int farmsOnWhomItRains(int set) {
+    private int farmsThatFeelRainOn(int set) {
         int wet = 0;
         for (int k = 0; k < parish.knees; k++) {
             if (now.holder[k] != NONE && bit(set, now.holder[k]) == 1) {
