@@ -138,6 +138,16 @@ final class Edges {
         }
     }
 
+    /** A question answers the same again, and changes nothing. */
+    static void onlyAsks(String what, Call call) {
+        long answer = call.on(busy());
+        changesNothing(what, Edges::busy, answer, call);
+        changesNothing(what + " again", Edges::busy, answer, x -> {
+            call.on(x);
+            return call.on(x);
+        });
+    }
+
     /** Numbers from least to most are as told: the next ones on both sides and far ones are refused. */
     static void outside(String what, Start start, long want, int least, int most, CallWith call) {
         int[] numbers = {least - 1, most + 1, Integer.MIN_VALUE, Integer.MAX_VALUE};

@@ -153,6 +153,11 @@ public final class HearsayEdgesTest {
         due("downhill(0)", x.downhill(0), 4);
     }
 
+    private static void promise22_nothingIsChanged() {
+        Edges.onlyAsks("downhill(0)", x -> x.downhill(0));
+        Edges.onlyAsks("downhill(1)", x -> x.downhill(1));
+    }
+
     // ---- promise 23
 
     private static void promise23_farmsFrom0To4() {
@@ -300,6 +305,13 @@ public final class HearsayEdgesTest {
         rain(x, 0, NONE, NONE);
     }
 
+    private static void promise24_nothingIsChanged() {
+        for (int what = 0; what < 3; what++) {
+            int asked = what;
+            Edges.onlyAsks("rain(" + asked + ")", x -> x.rain(asked));
+        }
+    }
+
     // ---- promise 25
 
     private static void promise25_nothingAndMost() {
@@ -330,6 +342,18 @@ public final class HearsayEdgesTest {
         due("rain(0)", x.rain(0), 8);
         due("rain(1)", x.rain(1), 0);
         due("rain(2)", x.rain(2), 0);
+    }
+
+    private static void promise25_neitherRainNorNone() {
+        KneesLent x = sixLent();
+        x.felt(0, 0);
+        rain(x, 16, 0, 0);
+        x.forget();
+        rain(x, 64, 0, 0);
+        x.felt(3, 1);
+        rain(x, 32, 32, 1);
+        x.forget();
+        rain(x, 64, 0, 0);
     }
 
     private static void promise25_allElseStays() {

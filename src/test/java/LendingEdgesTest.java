@@ -80,6 +80,11 @@ public final class LendingEdgesTest {
         due("a right of a farm that does not speak", x.canGo(2, 0), 1);
     }
 
+    private static void promise15_nothingIsChanged() {
+        Edges.onlyAsks("canGo(0, 0)", x -> x.canGo(0, 0));
+        Edges.onlyAsks("canGo(3, 2)", x -> x.canGo(3, 2));
+    }
+
     // ---- promise 16
 
     private static void promise16_bitsOfPeopleThereAre() {
@@ -144,8 +149,7 @@ public final class LendingEdgesTest {
     private static void promise16_nothingIsChanged() {
         for (int set = 0; set < 8; set++) {
             int bits = set;
-            long answer = Edges.busy().lending(bits);
-            Edges.changesNothing("lending(" + bits + ")", Edges::busy, answer, x -> x.lending(bits));
+            Edges.onlyAsks("lending(" + bits + ")", x -> x.lending(bits));
         }
     }
 
@@ -236,6 +240,11 @@ public final class LendingEdgesTest {
         due("the last of three", x.kneeFor(7, 2, 0), 2);
     }
 
+    private static void promise17_nothingIsChanged() {
+        Edges.onlyAsks("kneeFor(4, 2, 1)", x -> x.kneeFor(4, 2, 1));
+        Edges.onlyAsks("kneeFor(7, 0, 0)", x -> x.kneeFor(7, 0, 0));
+    }
+
     // ---- promise 18
 
     private static void most(KneesLent x, int which, int many, int oil) {
@@ -285,6 +294,13 @@ public final class LendingEdgesTest {
         most(worn("k0 0 12;p1 4 3;", 3), 0, 0, 0);
     }
 
+    private static void promise18_nothingIsChanged() {
+        for (int what = 0; what < 3; what++) {
+            int asked = what;
+            Edges.onlyAsks("most(" + asked + ")", x -> x.most(asked));
+        }
+    }
+
     // ---- promise 19
 
     private static void promise19_kneesAndPeopleThereAre() {
@@ -322,6 +338,11 @@ public final class LendingEdgesTest {
     private static void promise19_byWhatIsLeft() {
         due("10 left", worn("k0 0 30;p1 4 3;", 20).span(0, 0), 1);
         due("9 left", worn("k0 0 29;p1 4 3;", 20).span(0, 0), 0);
+    }
+
+    private static void promise19_nothingIsChanged() {
+        Edges.onlyAsks("span(0, 0)", x -> x.span(0, 0));
+        Edges.onlyAsks("span(3, 1)", x -> x.span(3, 1));
     }
 
     // ---- promise 20
@@ -407,6 +428,11 @@ public final class LendingEdgesTest {
         gives("k0 0 59;", 6, 10, 0, 1, 1, 1000000);
         gives("k0 0 60;", 6, 10, 0, 1, 0, 1);
         gives("k0 0 59;", 6, 10, 0, 5, 1, 64);
+    }
+
+    private static void promise20_nothingIsChanged() {
+        Edges.onlyAsks("gives(0, 6, 3, 1, 5, 0)", x -> x.gives(0, 6, 3, 1, 5, 0));
+        Edges.onlyAsks("gives(0, 6, 3, 1, 5, 1)", x -> x.gives(0, 6, 3, 1, 5, 1));
     }
 
     public static void main(String[] args) throws Exception {

@@ -373,6 +373,9 @@ public final class ParishEdgesTest {
         fault("P1 0 0;", 0);
         fault("X0 1;", 0);
         fault("O0 1;", 0);
+        fault("k0 0 1/;", 6);
+        fault("k0 0 /1;", 5);
+        fault("k0 0 1:;", 6);
         fault("k0 0 1:", 6);
         fault("k0 0 1<", 6);
         fault("k0 / 1;", 3);
@@ -647,6 +650,18 @@ public final class ParishEdgesTest {
     private static void promise07_notTheLowestIfThatWouldTakeOneTableMore() {
         tables("k0 0 1;k0 1 1;k0 2 1;k0 3 1;x0 2;x2 3;x3 1;", 0, 1, 1, 0, NONE, 2);
         tables("k0 0 1;k0 1 1;k0 3 1;k0 4 1;x0 3;x3 4;x4 1;", 0, 1, NONE, 1, 0, 2);
+    }
+
+    private static void promise07_noTableOfAnOlderParish() {
+        KneesLent x = Due.read(FIVE_FARMS + "x0 1;x1 2;x2 0;");
+        for (int i = 0; i < 3; i++) {
+            Due.typeAll(x, "k0 3 1;k0 1 1;");
+            due("parish()", x.parish(), 2);
+            due("tables", x.now(6), 1);
+            for (int f = 0; f < 5; f++) {
+                due("farm(" + f + ", 3)", x.farm(f, 3), f == 1 || f == 3 ? 0 : NONE);
+            }
+        }
     }
 
     // ---- promise 8
