@@ -87,9 +87,62 @@ public final class FaceTest {
         }
     }
 
+    private static List<Class<?>> allClasses() {
+        List<Class<?>> all = new ArrayList<>(Arrays.asList(KneesLent.class.getDeclaredClasses()));
+        all.add(KneesLent.class);
+        return all;
+    }
+
+    /** Rule 11: parameters, fields beside constants, classes. */
+    private static void sizes() {
+        atMost("classes", allClasses().size(), 12);
+        for (Class<?> one : allClasses()) {
+            int fields = 0;
+            for (Field f : one.getDeclaredFields()) {
+                fields += Modifier.isStatic(f.getModifiers()) ? 0 : 1;
+            }
+            atMost("fields of " + one.getName(), fields, 20);
+            for (Method m : one.getDeclaredMethods()) {
+                atMost("parameters of " + m.getName(), m.getParameterCount(), 7);
+            }
+        }
+    }
+
+    /** Rule 11: a method ends at the first closing brace that stands as far in as its head. */
+    private static void lengths(String all) {
+        Matcher methods = Pattern.compile("(?m)^( +)[^\\s/*][^;=\n]*\\) \\{\n(?s:.*?)\n\\1\\}$").matcher(all);
+        int found = 0;
+        int from = 0;
+        while (methods.find(from)) {
+            atMost("lines of " + methods.group().lines().findFirst().orElse(""), methods.group().lines().count(), 60);
+            found++;
+            from = methods.end();
+        }
+        same("methods found", found > METHODS.length, true);
+    }
+
+    /** No call makes an object: what is made stands in a field's own line, or in a row that a constructor fills. */
+    private static void makesNothingLater(String code) {
+        for (String line : code.split("\n")) {
+            boolean field = line.matches(" +(private |final |private final )[\\w\\[\\]]+ \\w+ = new .*;");
+            boolean row = line.matches(" +(images|before)\\[i\\] = new Now\\(\\);");
+            if (line.matches(".*\\bnew\\b.*") && !field && !row) {
+                same("a line that makes something", line, "");
+            }
+        }
+    }
+
+    private static void atMost(String what, long got, long most) {
+        if (got > most) {
+            Due.due(what + " are " + got + ", at most", got, most);
+        }
+    }
+
     private static void source() throws Exception {
         String all = Files.readString(Path.of("src/main/java/KneesLent.java"), StandardCharsets.ISO_8859_1);
         String code = all.replaceAll("(?s)/\\*.*?\\*/", " ").replaceAll("//[^\n]*", " ");
+        lengths(all);
+        makesNothingLater(code);
         for (String word : FORBIDDEN) {
             Matcher m = Pattern.compile("\\b" + word + "\\b").matcher(code);
             same("source has " + word, m.find(), false);
@@ -110,6 +163,7 @@ public final class FaceTest {
         Due.about("face");
         methods();
         fieldsAndClasses();
+        sizes();
         source();
         Due.due("BAD", KneesLent.BAD, -1);
         Due.due("STATE", KneesLent.STATE, -2);
